@@ -11,8 +11,8 @@ public final class WeaveDraft {
     private static final int SPOOLS = 3;
     private static final int KEPT = 2;
 
-    private final Draft now = new Draft();
-    private final Cloth cloth = new Cloth(now);
+    private final Cloth cloth = new Cloth();
+    private final Draft now = cloth.draft;
     private final Draft[] kept = new Draft[KEPT];
     private final boolean[] isKept = new boolean[KEPT];
     private final Past past = new Past();
@@ -580,22 +580,18 @@ public final class WeaveDraft {
         }
     }
 
-    /** What is found of the cloth that a draft weaves. */
+    /** The draft that is on the loom, and what is found of its cloth. */
     private static final class Cloth {
         // every other end, counted from 0, is of the upper layer
         private static final int UPPER_ENDS = 0x555;
         private static final int TOO_MANY = MOST_THREADS + 1;
 
-        private final Draft draft;
+        final Draft draft = new Draft();
         // where threads that are to be compared are put side by side
         private final int[] threads = new int[MOST_THREADS];
         // at n: how few of the first n crossings must be turned about, if the last of them is then up, is not
         private final int[] lastUp = new int[MOST_THREADS + 1];
         private final int[] lastDown = new int[MOST_THREADS + 1];
-
-        Cloth(Draft draft) {
-            this.draft = draft;
-        }
 
         int floatOfEnd(int end, boolean up) {
             int bits = draft.picksUp(end);

@@ -11,6 +11,7 @@ public final class FindTest {
         alike();
         idle();
         others();
+        smallestAndLargest();
         Check.finish();
     }
 
@@ -189,5 +190,38 @@ public final class FindTest {
         Check.due("count(15)", x.count(15), 1);
         x.turn();
         Check.due("count(14)", x.count(14), 1);
+    }
+
+    private static void smallestAndLargest() {
+        countsAre(Check.told("draft 12 12 6 6"), 12, 12, 6, 6, 5, 5, 6, 6, 36, 0, 0, 0, 24, 0, 0, 0);
+        countsAre(Check.told("draft 12 12 1 1;tie 0 0"), 12, 12, 1, 1, 12, 12, 1, 1, 36, 0, 0, 0, 0, 0, 0, 0);
+        countsAre(Check.told("draft 1 1 1 1"), 1, 1, 1, 1, 1, 1, 1, 1, 0, 0, 0, 0, 1, 0, 0, 0);
+        countsAre(Check.told("draft 1 1 6 6"), 1, 1, 6, 6, 1, 1, 1, 1, 0, 0, 62, 62, 1, 0, 0, 0);
+        WeaveDraft first = Check.told("row xxxx;row xoxo;row xxox");
+        first.sample();
+        // the first end, the first pick alone have the longest float; then the last ones
+        countsAre(first, 4, 3, 3, 3, 3, 4, 4, 3, 4, 0, 0, 0, 9, 0, 1, 0);
+        WeaveDraft last = Check.told("row xoxx;row oxox;row xxxx");
+        last.sample();
+        countsAre(last, 4, 3, 3, 3, 3, 4, 4, 3, 5, 0, 0, 0, 9, 0, 1, 0);
+        String six = "row xxoooooooooo;row xxoooooooooo;row xxoooooooooo;row xxoooooooooo;row xxoooooooooo;row xxoooooooooo";
+        WeaveDraft x = Check.told(six);
+        Check.tell(x, six);
+        int[] due = {12, 12, 2, 1, 0};
+        for (int what = 0; what < 5; what++) {
+            Check.due("least(" + what + ")", x.least(what), due[what]);
+        }
+        Check.due("sampled(11, 1)", x.sampled(11, 1), 1);
+        Check.due("sampled(11, 11)", x.sampled(11, 11), 0);
+        Check.due("sampled(12, 11)", x.sampled(12, 11), WeaveDraft.NONE);
+        Check.due("sample()", x.sample(), 2);
+        Check.due("least(4)", x.least(4), 1);
+        countsAre(x, 12, 12, 2, 1, 12, 10, 12, 1, 36, 0, 0, 0, 24, 0, 1, 0);
+    }
+
+    private static void countsAre(WeaveDraft x, int... due) {
+        for (int what = 0; what < 16; what++) {
+            Check.due("count(" + what + ")", x.count(what), due[what]);
+        }
     }
 }

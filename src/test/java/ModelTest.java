@@ -26,9 +26,11 @@ public final class ModelTest {
     }
 
     private void run(int seed) {
+        // a text takes the spools away, so some runs have none
+        boolean withTexts = seed % 4 != 0;
         while (calls < CALLS) {
             int kind = random.nextInt(20);
-            if (kind == 0) {
+            if (kind == 0 && withTexts) {
                 tellText();
             } else if (kind < 8) {
                 callAny(random.nextInt(9) + 8);

@@ -136,6 +136,27 @@ public final class SpoolTest {
         }
         Check.due("measure(0, 4)", x.measure(0, 4), WeaveDraft.OUTSIDE);
         Check.due("measure(0, -1)", x.measure(0, -1), WeaveDraft.OUTSIDE);
+        x.spool(0);
+        x.wind(0, 4);
+        measuredAll("threads of the old spool do not count", x, 4, 4, 4, 0);
+        measuredAll("a full spool", with(99, 98, 97, 96, 95, 94, 93, 92), 764, 99, 92, 0);
+        measuredAll("a full spool", with(1, 2, 3, 4, 5, 6, 7, 8), 36, 8, 8, 7);
+        x = with(3, 20, 30, 50);
+        x.spool(1);
+        x.rewind(0, 1);
+        x.wind(0, 10);
+        measuredAll("rewound threads do not count", x, 10, 10, 10, 0);
+        x = with(60, 5, 30);
+        x.knot(0);
+        measuredAll("knotted", x, 95, 60, 35, 0);
+        x.pull(0, 36);
+        measuredAll("cut", x, 59, 59, 59, 0);
+    }
+
+    private static void measuredAll(String when, WeaveDraft x, int... due) {
+        for (int what = 0; what < 4; what++) {
+            Check.due(when + ": measure(0, " + what + ")", x.measure(0, what), due[what]);
+        }
     }
 
     private static void rewound() {
