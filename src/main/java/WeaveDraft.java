@@ -453,6 +453,10 @@ public final class WeaveDraft {
 
         /** Makes all as at first; each number is 1 at least and within its most. */
         void begin(int newEnds, int newPicks, int newShafts, int newTreadles) {
+            // they divide below: no caller tells fewer than 1, and none may
+            if (newShafts < 1 || newTreadles < 1) {
+                return;
+            }
             ends = newEnds;
             picks = newPicks;
             shafts = newShafts;

@@ -53,9 +53,11 @@ final class Check {
     /** The ends that are up, pick by pick, as rows of x and o. */
     static String cloth(WeaveDraft x) {
         StringBuilder rows = new StringBuilder();
-        for (int j = 0; j < x.count(1); j++) {
+        int ends = x.count(0);
+        int picks = x.count(1);
+        for (int j = 0; j < picks; j++) {
             rows.append(j == 0 ? "" : " ");
-            for (int i = 0; i < x.count(0); i++) {
+            for (int i = 0; i < ends; i++) {
                 rows.append(x.cross(j, i, 0) == 1 ? 'x' : 'o');
             }
         }
@@ -67,38 +69,50 @@ final class Check {
         holds(when + ": cloth " + got + ", due is " + want, got.equals(want));
     }
 
-    /** All that can be asked of an object without changing it, but fault(). */
+    /**
+     * All that an object tells of its state without changing it, but fault(): at most 231 calls,
+     * so that it can be asked twice of an object that answers 512.
+     */
     static String all(WeaveDraft x) {
-        StringBuilder all = new StringBuilder();
-        for (int what = 0; what < 16; what++) {
+        StringBuilder all = new StringBuilder(draftOnly(x));
+        for (int what = 4; what < 16; what++) {
             all.append(x.count(what)).append(',');
         }
-        for (int i = 0; i < 12; i++) {
-            for (int what = 0; what < 7; what++) {
-                all.append(x.end(i, what)).append(',').append(x.pick(i, what)).append(',');
+        int rows = x.least(0);
+        int columns = x.least(1);
+        all.append(rows).append('x').append(columns).append(':');
+        for (int row = 0; row < rows; row++) {
+            for (int column = 0; column < columns; column++) {
+                all.append(x.sampled(row, column));
             }
-            for (int j = 0; j < 12; j++) {
-                all.append(x.cross(i, j, 0)).append(x.cross(i, j, 1)).append(x.sampled(i, j)).append(',');
-            }
-            all.append(x.treadle(i)).append(',').append(x.least(i)).append(',');
+        }
+        for (int what = 2; what < 5; what++) {
+            all.append(',').append(x.least(what));
         }
         for (int spool = 0; spool < 3; spool++) {
             for (int what = 0; what < 4; what++) {
-                all.append(x.measure(spool, what)).append(',');
+                all.append(',').append(x.measure(spool, what));
             }
         }
         return all.toString();
     }
 
-    /** Like all(), without what tells of undoing and of the text. */
+    /** The draft, by its numbers: without what tells of undoing, of the text, the sample and the spools. */
     static String draftOnly(WeaveDraft x) {
         StringBuilder all = new StringBuilder();
+        int[] sizes = new int[4];
         for (int what = 0; what < 4; what++) {
-            all.append(x.count(what)).append(',');
+            sizes[what] = x.count(what);
+            all.append(sizes[what]).append(',');
         }
-        for (int i = 0; i < 12; i++) {
-            all.append(x.end(i, 0)).append(',').append(x.end(i, 1)).append(',');
-            all.append(x.pick(i, 0)).append(',').append(x.pick(i, 1)).append(',').append(x.treadle(i)).append(';');
+        for (int i = 0; i < sizes[0]; i++) {
+            all.append(x.end(i, 0)).append('c').append(x.end(i, 1)).append(',');
+        }
+        for (int j = 0; j < sizes[1]; j++) {
+            all.append(x.pick(j, 0)).append('c').append(x.pick(j, 1)).append(',');
+        }
+        for (int k = 0; k < sizes[3]; k++) {
+            all.append(x.treadle(k)).append(';');
         }
         return all.toString();
     }

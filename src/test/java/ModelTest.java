@@ -3,6 +3,8 @@ import java.util.Random;
 /** Runs of calls, the same ones each time, on the program and on the model: all answers must be the same. */
 public final class ModelTest {
     private static final int RUNS = 2000, CALLS = 512;
+    // the most calls of one step: a text of 210 letters, erased ahead, asked and done behind
+    private static final int LONGEST_TEXT = 213, LONGEST_CALL = 3;
     private static final int[] WRONG = {-1, -2, 99, 1000, Integer.MIN_VALUE, Integer.MAX_VALUE};
     private static final String[] SIGNS = {" ", "  ", ";", ";;", "1", "0", "x", "o", "row", "draft", "A", ".", "\t", "clear", "07", "123"};
 
@@ -28,9 +30,9 @@ public final class ModelTest {
     private void run(int seed) {
         // a text takes the spools away, so some runs have none
         boolean withTexts = seed % 4 != 0;
-        while (calls < CALLS) {
+        while (calls + LONGEST_CALL <= CALLS) {
             int kind = random.nextInt(20);
-            if (kind == 0 && withTexts) {
+            if (kind == 0 && withTexts && calls + LONGEST_TEXT <= CALLS) {
                 tellText();
             } else if (kind < 8) {
                 callAny(random.nextInt(9) + 8);

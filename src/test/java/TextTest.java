@@ -163,7 +163,7 @@ public final class TextTest {
         Check.faultAt(x, "row", 0);
         Check.faultAt(x, "draw 0 0; row xxx", 10);
         Check.faultAt(x, "clear;row xxx", WeaveDraft.NONE);
-        Check.tell(x, "clear");
+        x = new WeaveDraft();
         String twelve = "row x;row x;row x;row x;row x;row x;row x;row x;row x;row x;row x;row x";
         Check.faultAt(x, twelve, WeaveDraft.NONE);
         Check.faultAt(x, twelve + ";row x", 72);
@@ -180,6 +180,7 @@ public final class TextTest {
         String most = "clear;".repeat(23) + "clear";
         Check.faultAt(x, most, WeaveDraft.NONE);
         Check.faultAt(x, most + ";", 143);
+        x = new WeaveDraft();
         Check.faultAt(x, most + " ;clear", 144);
         Check.faultAt(x, most + " clear", 144);
         Check.tell(x, most);
