@@ -18,13 +18,21 @@ public final class FaceTest {
     private static final String[] RULED_OUT = {
         "throw", "throws", "try", "catch", "finally", "synchronized", "assert", "import", "package", "->", "::",
         "hashCode", "toString", "Object", "System.out", "protected", "Exact", "volatile", "var"};
+    private static final Set<String> LIBRARY = Set.of("Math.max", "Math.min", "Integer.bitCount", "System.arraycopy");
 
     public static void main(String[] args) throws Exception {
         methods();
         constants();
         innerClasses();
         source();
+        library();
+        lengths();
         Check.finish();
+    }
+
+    private static String code() throws IOException {
+        String source = Files.readString(Path.of("src/main/java/WeaveDraft.java"));
+        return source.replaceAll("//[^\n]*", "").replaceAll("(?s)/\\*.*?\\*/", "");
     }
 
     private static boolean isPrivate(Member member) {
@@ -97,7 +105,7 @@ public final class FaceTest {
     private static void source() throws IOException {
         String source = Files.readString(Path.of("src/main/java/WeaveDraft.java"));
         Check.holds("plain signs alone", source.chars().allMatch(sign -> sign == '\n' || sign >= 32 && sign < 127));
-        String code = source.replaceAll("//[^\n]*", "").replaceAll("(?s)/\\*.*?\\*/", "");
+        String code = code();
         for (String word : RULED_OUT) {
             boolean isName = Character.isLetter(word.charAt(0));
             String pattern = isName ? "\\b" + Pattern.quote(word) + "\\b" : Pattern.quote(word);
@@ -113,5 +121,28 @@ public final class FaceTest {
             Check.holds("made with the object:" + made.group(), ofField || inConstructor);
         }
         Check.holds("places where rows are made are found", places > 10);
+    }
+
+    /** Rule 4: of the library only what the class is known to use, all of it listed there. */
+    private static void library() throws IOException {
+        Matcher used = Pattern.compile("\\b(Math|Integer|Long|System|Arrays|Character|String|List|Boolean)\\.(\\w+)").matcher(code());
+        int places = 0;
+        while (used.find()) {
+            places++;
+            Check.holds(used.group() + " is listed", LIBRARY.contains(used.group()));
+        }
+        Check.holds("places where the library is used are found", places > 10);
+    }
+
+    /** Rule 11: methods stay short, some sixty lines. */
+    private static void lengths() throws IOException {
+        Matcher method = Pattern.compile("(?ms)^( {4}| {8})(?=\\w)(?!for |if |while |switch )[^\n]*\\) \\{\n(.*?)^\\1\\}").matcher(code());
+        int methods = 0;
+        while (method.find()) {
+            methods++;
+            long lines = method.group(2).lines().count();
+            Check.holds(method.group().lines().findFirst().orElse("") + " has " + lines + " lines", lines <= 60);
+        }
+        Check.holds("methods are found", methods > 100);
     }
 }
